@@ -1059,8 +1059,11 @@ public final class LeftShoes {
         /** What the row takes ahead of a MILE. */
         final int[] minutesTo = new int[MILES + 1];
         final int[] costTo = new int[MILES + 1];
-        final int[] bareTo = new int[MILES + 1];
+        final int[][] goneTo = new int[MILES + 1][GOINGS];
+        /** HOPS at its end: more than the most are none more. */
+        final int[] hopsTo = new int[MILES + 1];
         final int[][] solesAt = new int[MILES + 1][WORN];
+        final Arrivals arrivals = new Arrivals();
 
         boolean isFound;
         final int[] best = new int[MILES];
@@ -1073,6 +1076,7 @@ public final class LeftShoes {
             worn[C] = world.shoeOrNull(c);
             isOneFooted = oneFooted;
             limit = most;
+            arrivals.forget();
             prepareGoings(world);
             prepareLeast();
             isFound = false;
@@ -1133,11 +1137,10 @@ public final class LeftShoes {
                     mile--;
                 } else if (isAllowed(mile, row[mile]) && hasSoles(mile, row[mile]) && isBetter(mile, row[mile])) {
                     step(mile, row[mile]);
-                    mile++;
-                    if (mile == MILES) {
+                    if (mile == MILES - 1) {
                         keep();
-                        mile--;
-                    } else {
+                    } else if (!isOutdone(mile + 1)) {
+                        mile++;
                         row[mile] = -1;
                     }
                 }
@@ -1149,10 +1152,9 @@ public final class LeftShoes {
                 return false;
             }
             if (going == BARE) {
-                return bareTo[mile] < MOST_BARE;
+                return goneTo[mile][BARE] < MOST_BARE;
             }
-            boolean hopped = mile >= MOST_HOPS && row[mile - 1] == HOP && row[mile - 2] == HOP;
-            return going != HOP || isOneFooted || !hopped;
+            return going != HOP || isOneFooted || hopsTo[mile] < MOST_HOPS;
         }
 
         private boolean hasSoles(int mile, int going) {
@@ -1177,10 +1179,21 @@ public final class LeftShoes {
         private void step(int mile, int going) {
             minutesTo[mile + 1] = minutesTo[mile] + minutesOf[going][mile];
             costTo[mile + 1] = costTo[mile] + costOf[going][mile];
-            bareTo[mile + 1] = bareTo[mile] + (going == BARE ? 1 : 0);
+            for (int k = 0; k < GOINGS; k++) {
+                goneTo[mile + 1][k] = goneTo[mile][k] + (going == k ? 1 : 0);
+            }
+            hopsTo[mile + 1] = going == HOP ? Math.min(hopsTo[mile] + 1, MOST_HOPS) : 0;
             for (int k = 0; k < WORN; k++) {
                 solesAt[mile + 1][k] = solesAt[mile][k] - wearOf[going][k];
             }
+        }
+
+        /** Whether a row ahead came to this MILE for no more, bounded alike further on: then it ends as well, and first. */
+        private boolean isOutdone(int mile) {
+            int[] gone = goneTo[mile];
+            int place = (mile * MILES + gone[SHOD]) * MILES + gone[ALIKE];
+            place = (place * (MOST_BARE + 1) + gone[BARE]) * (MOST_HOPS + 1) + hopsTo[mile];
+            return !arrivals.betters(place, costTo[mile], minutesTo[mile]);
         }
 
         private void keep() {
@@ -1199,6 +1212,36 @@ public final class LeftShoes {
                     }
                 }
             }
+        }
+    }
+
+    /** With what COST, MINUTES the search for a WALK came last to each of its places. */
+    private static final class Arrivals {
+        /** Of rows to a MILE, told apart by what bounds them further: SHOD, ALIKE, BARE MILES, HOPS at their end. */
+        private static final int PLACES = MILES * MILES * MILES * (Walk.MOST_BARE + 1) * (Walk.MOST_HOPS + 1);
+
+        final int[] costs = new int[PLACES];
+        final int[] lengths = new int[PLACES];
+        final int[] searchOf = new int[PLACES];
+        /** Counted, so that no place need be cleared for a new one. */
+        int search;
+
+        void forget() {
+            search++;
+        }
+
+        /** Whether this one betters the last in COST or MINUTES; then it takes its place. */
+        boolean betters(int place, int cost, int length) {
+            if (!isWithin(place, 0, PLACES - 1)) {
+                return true;
+            }
+            if (searchOf[place] == search && costs[place] <= cost && lengths[place] <= length) {
+                return false;
+            }
+            searchOf[place] = search;
+            costs[place] = cost;
+            lengths[place] = length;
+            return true;
         }
     }
 
