@@ -207,6 +207,16 @@ public final class ModelTest {
         }
     }
 
+    /** At times of miles that are nearly alike: then many walks are as cheap, or as long. */
+    private void drawRoad(Due due) {
+        int muds = random.nextBoolean() ? 10 : 1 + random.nextInt(3);
+        int watchers = random.nextBoolean() ? 17 : 1 + random.nextInt(4);
+        for (int mile = 0; mile < 9; mile++) {
+            call(due, "road", mile, 0, random.nextInt(muds));
+            call(due, "road", mile, 1, random.nextInt(watchers));
+        }
+    }
+
     /** Shoes that make walks of every kind, and limits round what they take. */
     private void walks(Due due) {
         call(due, "person", 300, 0);
@@ -217,15 +227,15 @@ public final class ModelTest {
             call(due, "stamp", k, random.nextInt(2));
         }
         for (int k = 0; k < 5; k++) {
-            lookAtAll(due);
-            call(due, "tax", 4, random.nextInt(100));
+            drawRoad(due);
+            call(due, "tax", 4, random.nextInt(random.nextBoolean() ? 100 : 4));
             call(due, "tax", random.nextInt(4), random.nextInt(10));
             int taxed = random.nextInt(2);
             call(due, "tax", 5, taxed);
             for (int m = 0; m < 3; m++) {
                 long a = shoeFor(0, taxed);
                 long b = shoeFor(0, 1 - taxed);
-                long c = shoeFor(0, 1 - taxed);
+                long c = random.nextBoolean() ? -1 : shoeFor(0, 1 - taxed);
                 long limit = 170 + random.nextInt(250);
                 long what = random.nextInt(11) - 2;
                 call(due, "cheapest", 0, a, b, c, limit, what);

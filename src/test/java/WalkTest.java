@@ -12,6 +12,7 @@ public final class WalkTest {
         cheapestHopsAndBare(due);
         cheapestFines(due);
         cheapestSoles(due);
+        cheapestFewHops(due);
         cheapestOneFooted(due);
         cheapestBad(due);
         go(due);
@@ -185,6 +186,29 @@ public final class WalkTest {
         x.shoe(0, 1, SILK, 12);
         row(due, x, new int[] {0, 0, 5, 1}, 999, 0, 3 * 20 + 3 * 26 + 3 * 30, "000111333");
         none(due, x, new int[] {0, 0, 5, -1}, 999);
+    }
+
+    private static void cheapestFewHops(Due due) {
+        due.of("promise 15: cheapest, no three hops one behind the other");
+        // Each time a like way to a mile, of as many hops, but two of them last, is the cheaper one so far.
+        few(due, 4, 2, new int[] {0, 1, 1, 0, 1, 1, 1, 0, 0}, new int[] {2, 3, 1, 3, 1, 2, 3, 1, 2}, 314,
+                2, 309, "322302233");
+        few(due, 1, 1, new int[] {2, 1, 1, 0, 0, 2, 2, 2, 0}, new int[] {0, 0, 1, 0, 1, 0, 0, 1, 1}, 348,
+                0, 319, "223330223");
+    }
+
+    private static void few(Due due, int soles, int fine, int[] muds, int[] watched, int limit, int cost, int minutes,
+            String row) {
+        LeftShoes x = new LeftShoes();
+        x.person(0, 0);
+        x.shoe(0, 0, PLAIN, soles);
+        x.shoe(0, 1, PLAIN, 99);
+        x.tax(4, fine);
+        for (int mile = 0; mile < 9; mile++) {
+            x.road(mile, 0, muds[mile]);
+            x.road(mile, 1, watched[mile]);
+        }
+        row(due, x, new int[] {0, 0, 1, -1}, limit, cost, minutes, row);
     }
 
     private static void cheapestOneFooted(Due due) {
