@@ -600,7 +600,6 @@ public final class LeftShoes {
             it.foot = foot;
             it.sort = sort;
             it.soles = soles;
-            // A SHOE that an IMAGE took back may have left its place STAMPED.
             it.isStamped = false;
             shoeCount++;
             return shoeCount - 1;

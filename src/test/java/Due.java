@@ -1,5 +1,5 @@
 /** Counts cases and tells each call whose answer is not the one that is due. */
-final class Due {
+class Due {
     private int cases;
     private int wrongCases;
     private boolean isWrong;
